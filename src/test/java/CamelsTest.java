@@ -7,6 +7,7 @@ final class CamelsTest {
         strainAndLameness();
         lameDaysAddUp();
         strainOf60IsNotEnough();
+        strainOf61IsEnough();
         lamenessSlowsTheLeader();
         restRelieves();
         needs();
@@ -142,6 +143,24 @@ final class CamelsTest {
         y.setLeader(1);
         y.travel();
         Check.same("of 9 stays 0", y.strain(1), 0);
+    }
+
+    private static void strainOf61IsEnough() {
+        CaravanRoute x = Check.loaded("route 999;camel 60 9 90;camel 10 9 90;camel 20 9 90;camel 21 9 90;");
+        x.travel();
+        Check.same("strain", x.strain(1), 50);
+        x.setLeader(2);
+        x.travel();
+        Check.same("strain 60", x.strain(1), 60);
+        Check.same("lameDays", x.lameDays(1), 0);
+        x.undo();
+        x.setLeader(3);
+        x.travel();
+        Check.same("strain 61", x.strain(1), 0);
+        Check.same("lameDays", x.lameDays(1), 3);
+        CaravanRoute y = Check.loaded("route 999;camel 31 9 90;camel 30 9 90;");
+        y.travel();
+        Check.same("slower by one", y.strain(1), 1);
     }
 
     private static void lamenessSlowsTheLeader() {

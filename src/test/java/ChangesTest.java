@@ -11,6 +11,8 @@ final class ChangesTest {
         failuresAreNoChanges();
         whatUndoLeaves();
         snapshots();
+        placesComeBack();
+        everythingIsFull();
         snapshotsAndUndo();
         Check.end();
     }
@@ -93,12 +95,31 @@ final class ChangesTest {
             x.saveSnapshot(1);
             x.travel();
             x.rest();
-            String before = everything(x);
-            change(x, change);
-            Check.same("change " + change + " does something", everything(x).equals(before), false);
-            Check.same("undo of change " + change, x.undo(), 3);
-            Check.same("state after undo of change " + change, everything(x), before);
+            undoOf(x, change, 3);
         }
+        // Here, at a well, two camels are lame, one of them dry, and a load lies behind.
+        for (int change = 0; change < 9; change++) {
+            CaravanRoute x = Check.loaded("route 300;camel 50 3 90;camel 30 8 60;camel 10 3 10;well 200 99 5;"
+                + "load 9 8 on 1;load 3 4 on 0;load 5 6;load 6 8 on 0;");
+            x.setStopping(true);
+            x.saveSnapshot(1);
+            x.travel();
+            x.takeOff(3);
+            for (int day = 1; day < 4; day++) {
+                x.travel();
+            }
+            Check.same("lameDays", x.lameDays(1), 3);
+            Check.same("dryDays", x.dryDays(2), 2);
+            undoOf(x, change, 6);
+        }
+    }
+
+    private static void undoOf(CaravanRoute x, int change, int left) {
+        String before = everything(x);
+        change(x, change);
+        Check.same("change " + change + " does something", everything(x).equals(before), false);
+        Check.same("undo of change " + change, x.undo(), left);
+        Check.same("state after undo of change " + change, everything(x), before);
     }
 
     private static void change(CaravanRoute x, int change) {
@@ -111,7 +132,8 @@ final class ChangesTest {
             case 5 -> x.putOn(0, 0);
             case 6 -> x.takeOff(1);
             case 7 -> x.addLoad(3, 4);
-            default -> x.restoreSnapshot(1);
+            case 8 -> x.restoreSnapshot(1);
+            default -> throw new IllegalArgumentException("no such change");
         }
     }
 
@@ -245,6 +267,58 @@ final class ChangesTest {
         x.undo();
         x.restoreSnapshot(0);
         Check.same("day", x.day(), 2);
+    }
+
+    private static void placesComeBack() {
+        CaravanRoute x = new CaravanRoute();
+        x.travel();
+        x.takeOff(0);
+        x.saveSnapshot(0);
+        x.putOn(0, 0);
+        x.travel();
+        x.takeOff(0);
+        Check.same("placeOf", x.placeOf(0), 77);
+        x.undo();
+        x.undo();
+        x.undo();
+        Check.same("placeOf after undo", x.placeOf(0), 40);
+        x.putOn(0, 0);
+        x.travel();
+        x.takeOff(0);
+        x.restoreSnapshot(0);
+        Check.same("placeOf of the snapshot", x.placeOf(0), 40);
+    }
+
+    /** As many camels, wells, storms and loads as there can be. */
+    private static void everythingIsFull() {
+        StringBuilder text = new StringBuilder("route 90;" + "camel 20 9 90;".repeat(10));
+        for (int well = 0; well < 8; well++) {
+            text.append("well ").append(well * 10).append(" 99 9;");
+        }
+        text.append("storm 0 9 1;".repeat(6)).append("load 9 9 on 9;".repeat(20));
+        CaravanRoute x = Check.loaded(text.toString());
+        Check.same("needToday", x.needToday(9), 13);
+        Check.same("travel", x.travel(), 18);
+        Check.same("rest", x.rest(), 10);
+        x.setStopping(true);
+        Check.same("travel", x.travel(), 2);
+        Check.same("wouldDrink", x.wouldDrink(9), 33);
+        Check.same("wouldDrink", x.wouldDrink(3), 15);
+        Check.same("wouldDrink", x.wouldDrink(4), 6);
+        Check.same("wouldDrink", x.wouldDrink(5), 0);
+        Check.same("drink", x.drink(), 99);
+        Check.same("saveSnapshot", x.saveSnapshot(0), 20);
+        Check.same("undo", x.undo(), 4);
+        Check.same("restoreSnapshot", x.restoreSnapshot(0), 20);
+        Check.same("carried", x.carried(9), 180);
+        Check.same("freeWeight", x.freeWeight(9), 0);
+        Check.badState("addLoad", () -> x.addLoad(1, 1));
+        while (x.livingCamels() > 0) {
+            x.rest();
+        }
+        Check.same("carried", x.carried(9), 0);
+        Check.same("placeOf", x.placeOf(19), 20);
+        Check.same("carriedValue", x.carriedValue(), 0);
     }
 
     private static void snapshotsAndUndo() {

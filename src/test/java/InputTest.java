@@ -10,6 +10,7 @@ final class InputTest {
         failedLoadChangesNothingElse();
         errorIsThatOfTheLatestLoad();
         tokens();
+        tokensEndWithTheText();
         errorOfTheFirstToken();
         endsTooEarly();
         ranges();
@@ -188,11 +189,46 @@ final class InputTest {
         right("route 50;camel 40 3 60;well 9 1 0;storm 1 1 1;load 1 1;", 1);
     }
 
+    /** What was cut off, or stood in the buffer before, belongs to no token. */
+    private static void tokensEndWithTheText() {
+        for (String rest : new String[] {"s", "5", "0", ";", " "}) {
+            CaravanRoute x = new CaravanRoute();
+            Check.feed(x, "route" + rest);
+            x.shorten(5);
+            fails(x, "route before " + rest, 5);
+            Check.feed(x, "route 50" + rest);
+            x.shorten(8);
+            fails(x, "route 50 before " + rest, 8);
+            Check.feed(x, "route 505" + rest);
+            x.shorten(9);
+            fails(x, "route 505 before " + rest, 9);
+        }
+        String full = "route 50;" + CAMEL;
+        for (String last : new String[] {"load", "load 1", "load 1 1", "load 1 1 on 0;"}) {
+            CaravanRoute x = new CaravanRoute();
+            Check.feed(x, full + " ".repeat(700 - full.length() - last.length()) + last);
+            if (last.endsWith(";")) {
+                Check.same("load of 700 bytes", x.load(), 1);
+            } else {
+                fails(x, "700 bytes", 700);
+            }
+        }
+        CaravanRoute x = new CaravanRoute();
+        Check.feed(x, "a".repeat(700));
+        fails(x, "a long word", 0);
+        Check.feed(x, "route " + "1".repeat(694));
+        fails(x, "a long number", 6);
+    }
+
     private static void errorOfTheFirstToken() {
         wrong("50 route;", 0);
         wrong(";", 0);
         wrong("camel 40 3 60;", 0);
         wrong("route route;", 6);
+        wrong("route " + CAMEL, 6);
+        wrong("xoute 50;" + CAMEL, 0);
+        wrong("routez 50;" + CAMEL, 0);
+        wrong("routea 50;" + CAMEL, 0);
         wrong("route ;", 6);
         wrong("route 50 50;", 9);
         wrong("route 50 camel", 9);

@@ -68,6 +68,9 @@ final class LoadsTest {
         x.takeOff(0);
         x.takeOff(2);
         Check.same("carriedValue", x.carriedValue(), 0);
+        CaravanRoute full = Check.loaded("route 50;" + "camel 10 1 10;".repeat(10) + "load 9 7 on 9;load 9 7 on 0;".repeat(2)
+            + "load 1 99;".repeat(15) + "load 2 5 on 3;");
+        Check.same("carriedValue of 20 loads", full.carriedValue(), 33);
         Check.same("valueOf", x.valueOf(1), 50);
         Check.same("weightOf", x.weightOf(1), 45);
     }
