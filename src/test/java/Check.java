@@ -5,16 +5,41 @@ import java.util.concurrent.Callable;
 final class Check {
     private static int wrong = 0;
     private static int asked = 0;
+    private static String about = "";
 
     private Check() {
+    }
+
+    /** What is wrong from now on is told together with this. */
+    static void about(String what) {
+        about = what.isEmpty() ? "" : "[" + what + "] ";
+    }
+
+    static int asked() {
+        return asked;
     }
 
     static void same(String call, Object got, Object due) {
         asked++;
         if (!got.equals(due)) {
             wrong++;
-            System.out.println(call + " answered " + got + ", due is " + due);
+            System.out.println(about + call + " answered " + shown(got, due) + ", due is " + shown(due, got));
         }
+    }
+
+    /** Of a long text only the first line that the other one has not. */
+    private static String shown(Object text, Object other) {
+        String[] lines = text.toString().split("\n");
+        String[] others = other.toString().split("\n");
+        if (lines.length < 12) {
+            return text.toString();
+        }
+        for (int i = 0; i < lines.length; i++) {
+            if (i >= others.length || !lines[i].equals(others[i])) {
+                return "'" + lines[i] + "' in line " + (i + 1);
+            }
+        }
+        return "no more than " + lines.length + " lines";
     }
 
     /** The call must throw this very class of exception. */
@@ -30,7 +55,7 @@ final class Check {
             got = "threw " + e.getClass().getName();
         }
         wrong++;
-        System.out.println(call + " " + got + ", due is " + due.getName());
+        System.out.println(about + call + " " + got + ", due is " + due.getName());
     }
 
     static void noSuch(String call, Callable<?> body) {
