@@ -6,6 +6,7 @@ final class EdgeChanges extends Edge {
         theLatestEight();
         undoneChanges();
         whatUndoRestores();
+        placesComeBack();
         whatUndoLeaves();
         otherCalls();
         refusedCalls();
@@ -152,6 +153,38 @@ final class EdgeChanges extends Edge {
                 same("the caravan of the first days after " + change.call + " and undo", Whole.caravan(y), early);
             });
         }
+    }
+
+    /** A load that lay at kilometre 0 has been carried to the end and put down there. */
+    private static CaravanRoute carriedOn() {
+        CaravanRoute x = loaded("route 100;camel 50 9 90;load 1 1;");
+        x.saveSnapshot(1);
+        x.putOn(0, 0);
+        travel(x, 2);
+        x.takeOff(0);
+        same("placeOf", x.placeOf(0), 100);
+        return x;
+    }
+
+    private static void placesComeBack() {
+        term(7, "Undoing a change restores everything as it was before it", () -> {
+            CaravanRoute x = carriedOn();
+            int[] places = {100, 50, 0, 0};
+            for (int left = 3; left >= 0; left--) {
+                same("undo", x.undo(), left);
+                same("placeOf", x.placeOf(0), places[3 - left]);
+                same("isCarried", x.isCarried(0), left > 0);
+            }
+            same("the caravan", Whole.caravan(x), Whole.caravan(loaded("route 100;camel 50 9 90;load 1 1;")));
+        });
+        promise(59, "Restores a snapshot", () -> {
+            CaravanRoute x = carriedOn();
+            x.restoreSnapshot(1);
+            same("placeOf", x.placeOf(0), 0);
+            same("the caravan", Whole.caravan(x), Whole.caravan(loaded("route 100;camel 50 9 90;load 1 1;")));
+            same("undo of restoreSnapshot", x.undo(), 4);
+            same("placeOf after undo", x.placeOf(0), 100);
+        });
     }
 
     private static void whatUndoLeaves() {

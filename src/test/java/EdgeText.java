@@ -46,6 +46,19 @@ final class EdgeText extends Edge {
             wrong("Route 50;" + CAMEL, 0);
             wrong("routE 50;" + CAMEL, 0);
             wrong("a".repeat(700), 0);
+            // Words that differ from the right ones in their first or last letter alone.
+            wrong("soute 50;" + CAMEL, 0);
+            wrong("routf 50;" + CAMEL, 0);
+            wrong("route 50;damel 40 3 60;", 9);
+            wrong("route 50;camem 40 3 60;", 9);
+            wrong(ROUTE + "xell 1 1 1;", 23);
+            wrong(ROUTE + "welm 1 1 1;", 23);
+            wrong(ROUTE + "rtorm 1 1 1;", 23);
+            wrong(ROUTE + "storn 1 1 1;", 23);
+            wrong(ROUTE + "moad 1 1;", 23);
+            wrong(ROUTE + "loae 1 1;", 23);
+            wrong(ROUTE + "load 1 1 in 0;", 32);
+            wrong(ROUTE + "load 1 1 om 0;", 32);
         });
     }
 
@@ -178,8 +191,11 @@ final class EdgeText extends Edge {
         });
         term(6, "other loads lie at kilometre 0", () -> {
             CaravanRoute x = Made.arrived();
+            x.takeOff(0);
+            same("placeOf before load", x.placeOf(0), 100);
             Check.feed(x, ROUTE + "load 1 1;load 1 1 on 0;load 1 1;");
             x.load();
+            same("placeOf after load", x.placeOf(0), 0);
             x.travel();
             same("placeOf", x.placeOf(0), 0);
             same("isCarried", x.isCarried(0), false);
