@@ -1,15 +1,22 @@
 import java.nio.charset.StandardCharsets;
 import java.util.concurrent.Callable;
+import java.util.function.Supplier;
 
-/** Long runs of calls, the same ones each time, answered by the class and by PlainCaravan. */
+/**
+ * Runs of calls, the same ones each time, answered by the class and by PlainCaravan. An object is used
+ * for 512 calls and no more, so each run asks some of all questions on its way, and all of them at its end.
+ */
 final class ModelTest {
-    private static final int RUNS = 600;
-    private static final int CALLS = 220;
+    private static final int RUNS = 24_000;
+    private static final int CALLS_OF_AN_OBJECT = 512;
     private long seed;
     private final CaravanRoute x = new CaravanRoute();
     private final PlainCaravan plain = new PlainCaravan();
     private final StringBuilder told = new StringBuilder();
     private final int run;
+    private int calls;
+    /** Of so many questions one is asked. */
+    private int every;
 
     private ModelTest(int run) {
         this.run = run;
@@ -17,9 +24,13 @@ final class ModelTest {
     }
 
     public static void main(String[] args) {
+        int most = 0;
         for (int run = 0; run < RUNS; run++) {
-            new ModelTest(run).play();
+            ModelTest test = new ModelTest(run);
+            test.play();
+            most = Math.max(most, test.calls);
         }
+        Check.same("calls of the longest run", most, CALLS_OF_AN_OBJECT);
         Check.end();
     }
 
@@ -29,19 +40,32 @@ final class ModelTest {
     }
 
     private void play() {
-        compareAll();
-        for (int i = 0; i < CALLS; i++) {
+        int callsOnTheWay = below(CALLS_OF_AN_OBJECT);
+        every = 1 + below(100);
+        while (calls < callsOnTheWay) {
             call();
-            compareAll();
+            askAll();
+        }
+        every = 1;
+        askAll();
+    }
+
+    /** A call that is made in any case: a change, or one that leads to changes. */
+    private void both(String call, Supplier<Object> due, Callable<?> body) {
+        if (calls < CALLS_OF_AN_OBJECT) {
+            calls++;
+            compare(call, due.get(), body);
         }
     }
 
-    private void both(String call, Object due, Callable<?> body) {
-        told.append(call).append(" = ").append(due).append('\n');
-        same(call, due, body);
+    /** A question that may be left out. */
+    private void same(String call, Supplier<Object> due, Callable<?> body) {
+        if (below(every) == 0) {
+            both(call, due, body);
+        }
     }
 
-    private void same(String call, Object due, Callable<?> body) {
+    private void compare(String call, Object due, Callable<?> body) {
         Object got;
         try {
             got = body.call();
@@ -52,6 +76,7 @@ final class ModelTest {
             System.out.println("run " + run + ":\n" + told + call + " answered " + got + ", due is " + due);
             System.exit(1);
         }
+        told.append(call).append(" = ").append(due).append('\n');
         Check.same(call, got, due);
     }
 
@@ -71,43 +96,43 @@ final class ModelTest {
         switch (below(run % 3 == 0 ? 16 : 26)) {
             case 0 -> {
                 boolean isOn = below(4) > 0;
-                both("setStopping " + isOn, plain.setStopping(isOn), () -> x.setStopping(isOn));
+                both("setStopping " + isOn, () -> plain.setStopping(isOn), () -> x.setStopping(isOn));
             }
-            case 1, 2 -> both("drink", plain.drink(), () -> x.drink());
-            case 3 -> both("setLeader " + camel, plain.setLeader(camel), () -> x.setLeader(camel));
-            case 4, 5 -> both("putOn " + load + " " + camel, plain.putOn(load, camel), () -> x.putOn(load, camel));
-            case 6 -> both("takeOff " + load, plain.takeOff(load), () -> x.takeOff(load));
+            case 1, 2 -> both("drink", () -> plain.drink(), () -> x.drink());
+            case 3 -> both("setLeader " + camel, () -> plain.setLeader(camel), () -> x.setLeader(camel));
+            case 4, 5 -> both("putOn " + load + " " + camel, () -> plain.putOn(load, camel), () -> x.putOn(load, camel));
+            case 6 -> both("takeOff " + load, () -> plain.takeOff(load), () -> x.takeOff(load));
             case 7 -> {
                 int weight = below(50) - below(2);
                 int value = below(105);
-                both("addLoad " + weight + " " + value, plain.addLoad(weight, value), () -> x.addLoad(weight, value));
+                both("addLoad " + weight + " " + value, () -> plain.addLoad(weight, value), () -> x.addLoad(weight, value));
             }
             case 8 -> {
                 int times = 1 + below(10);
                 for (int i = 0; i < times; i++) {
-                    both("undo", plain.undo(), () -> x.undo());
+                    both("undo", () -> plain.undo(), () -> x.undo());
                 }
             }
             case 9 -> {
                 int slot = below(20) == 0 ? below(5) - 2 : below(2);
-                both("saveSnapshot " + slot, plain.saveSnapshot(slot), () -> x.saveSnapshot(slot));
+                both("saveSnapshot " + slot, () -> plain.saveSnapshot(slot), () -> x.saveSnapshot(slot));
             }
             case 10 -> {
                 int slot = below(20) == 0 ? below(5) - 2 : below(2);
-                both("restoreSnapshot " + slot, plain.restoreSnapshot(slot), () -> x.restoreSnapshot(slot));
+                both("restoreSnapshot " + slot, () -> plain.restoreSnapshot(slot), () -> x.restoreSnapshot(slot));
             }
             case 11 -> {
                 if (below(4) == 0) {
                     newText();
                 }
             }
-            case 12, 13 -> both("rest", plain.rest(), () -> x.rest());
+            case 12, 13 -> both("rest", () -> plain.rest(), () -> x.rest());
             case 14 -> {
                 for (int i = 0; i < 3; i++) {
-                    both("travel", plain.travel(), () -> x.travel());
+                    both("travel", () -> plain.travel(), () -> x.travel());
                 }
             }
-            default -> both("travel", plain.travel(), () -> x.travel());
+            default -> both("travel", () -> plain.travel(), () -> x.travel());
         }
     }
 
@@ -130,14 +155,14 @@ final class ModelTest {
                 signs.append(sign);
                 words[k / 4] = words[k / 4] << 8 | sign;
             }
-            both("append", plain.append(signs.toString()), () -> x.append(words[0], words[1], words[2], words[3], words[4]));
+            both("append", () -> plain.append(signs.toString()), () -> x.append(words[0], words[1], words[2], words[3], words[4]));
         }
         if (below(2) == 0) {
-            both("shorten", plain.shorten(bytes.length), () -> x.shorten(bytes.length));
+            both("shorten", () -> plain.shorten(bytes.length), () -> x.shorten(bytes.length));
         }
-        both("load", plain.load(), () -> x.load());
-        same("hasError", plain.hasError(), () -> x.hasError());
-        same("errorOffset", plain.errorOffset(), () -> x.errorOffset());
+        both("load", () -> plain.load(), () -> x.load());
+        same("hasError", () -> plain.hasError(), () -> x.hasError());
+        same("errorOffset", () -> plain.errorOffset(), () -> x.errorOffset());
     }
 
     private String text() {
@@ -162,87 +187,80 @@ final class ModelTest {
         return text.toString();
     }
 
-    private void compareAll() {
+    private void askAll() {
         PlainCaravan.World w = plain.world;
-        same("length", w.length, () -> x.length());
-        same("kilometre", w.kilometre, () -> x.kilometre());
-        same("hasArrived", w.kilometre == w.length, () -> x.hasArrived());
-        same("day", w.day, () -> x.day());
+        same("length", () -> w.length, () -> x.length());
+        same("kilometre", () -> w.kilometre, () -> x.kilometre());
+        same("hasArrived", () -> w.kilometre == w.length, () -> x.hasArrived());
+        same("day", () -> w.day, () -> x.day());
         int day = below(30);
-        same("stormOn " + day, w.storm(day), () -> x.stormOn(day));
-        same("isStopping", w.stopping, () -> x.isStopping());
-        same("drunk", w.drunk, () -> x.drunk());
-        same("leader", w.leader, () -> x.leader());
-        same("distanceToday", w.distance(), () -> x.distanceToday());
+        same("stormOn " + day, () -> w.storm(day), () -> x.stormOn(day));
+        same("isStopping", () -> w.stopping, () -> x.isStopping());
+        same("drunk", () -> w.drunk, () -> x.drunk());
+        same("leader", () -> w.leader, () -> x.leader());
+        same("distanceToday", () -> w.distance(), () -> x.distanceToday());
         int days = below(51);
-        same("livingAfter " + days, plain.livingAfter(days), () -> x.livingAfter(days));
+        same("livingAfter " + days, () -> plain.livingAfter(days), () -> x.livingAfter(days));
         if (below(3) == 0) {
-            same("daysToArrival", plain.daysToArrival(), () -> x.daysToArrival());
+            same("daysToArrival", () -> plain.daysToArrival(), () -> x.daysToArrival());
         }
-        same("writeCamels", plain.writeCamels(), () -> x.writeCamels());
+        same("writeCamels", () -> plain.writeCamels(), () -> x.writeCamels());
         for (int i = 0; i < plain.written.length(); i++) {
             int at = i;
-            same("writtenByte " + i, (int) plain.written.charAt(i), () -> x.writtenByte(at));
+            same("writtenByte " + at, () -> (int) plain.written.charAt(at), () -> x.writtenByte(at));
         }
-        compareWells(w);
-        compareCamels(w);
-        compareLoads(w);
+        int behind = plain.written.length();
+        same("writtenByte " + behind, () -> PlainCaravan.INDEX, () -> x.writtenByte(behind));
+        askWells(w);
+        askCamels(w);
+        askLoads(w);
     }
 
-    private void compareWells(PlainCaravan.World w) {
-        same("wellCount", w.wells.size(), () -> x.wellCount());
+    private void askWells(PlainCaravan.World w) {
+        same("wellCount", () -> w.wells.size(), () -> x.wellCount());
         for (PlainCaravan.Well well : w.wells) {
-            same("wellKilometre", well.kilometre, () -> x.wellKilometre(well.number));
-            same("wellLevel " + well.number, well.level, () -> x.wellLevel(well.number));
-            same("wellCapacity", well.capacity, () -> x.wellCapacity(well.number));
+            same("wellKilometre", () -> well.kilometre, () -> x.wellKilometre(well.number));
+            same("wellLevel " + well.number, () -> well.level, () -> x.wellLevel(well.number));
+            same("wellCapacity", () -> well.capacity, () -> x.wellCapacity(well.number));
         }
-        same("wellHere", w.here() == null ? PlainCaravan.NO_SUCH : w.here().number, () -> x.wellHere());
-        same("nextWell", w.next() == null ? PlainCaravan.NO_SUCH : w.next().number, () -> x.nextWell());
+        same("wellHere", () -> w.here() == null ? PlainCaravan.NO_SUCH : w.here().number, () -> x.wellHere());
+        same("nextWell", () -> w.next() == null ? PlainCaravan.NO_SUCH : w.next().number, () -> x.nextWell());
     }
 
-    private void compareCamels(PlainCaravan.World w) {
-        same("camelCount", w.camels.size(), () -> x.camelCount());
-        same("livingCamels", w.living().size(), () -> x.livingCamels());
-        int sum = 0;
-        PlainCaravan.Camel thirstiest = null;
+    private void askCamels(PlainCaravan.World w) {
+        same("camelCount", () -> w.camels.size(), () -> x.camelCount());
+        same("livingCamels", () -> w.living().size(), () -> x.livingCamels());
         for (PlainCaravan.Camel c : w.camels) {
             int i = c.number;
-            same("isDead " + i, c.dead, () -> x.isDead(i));
-            same("pace " + i, c.pace, () -> x.pace(i));
-            same("speed " + i, w.speed(c), () -> x.speed(i));
-            same("water " + i, c.water, () -> x.water(i));
-            same("tank " + i, c.tank, () -> x.tank(i));
-            same("strain " + i, c.strain, () -> x.strain(i));
-            same("lameDays " + i, c.lame, () -> x.lameDays(i));
-            same("dryDays " + i, c.dry, () -> x.dryDays(i));
-            same("carried " + i, w.carried(c), () -> x.carried(i));
-            same("freeWeight " + i, w.free(c), () -> x.freeWeight(i));
-            same("needToday " + i, c.dead ? 0 : w.need(c), () -> x.needToday(i));
-            same("wouldDrink " + i, plain.wouldDrink(i), () -> x.wouldDrink(i));
-            sum += c.dead ? 0 : c.water;
-            if (!c.dead && (thirstiest == null || c.water < thirstiest.water)) {
-                thirstiest = c;
-            }
+            same("isDead " + i, () -> c.dead, () -> x.isDead(i));
+            same("pace " + i, () -> c.pace, () -> x.pace(i));
+            same("speed " + i, () -> w.speed(c), () -> x.speed(i));
+            same("water " + i, () -> c.water, () -> x.water(i));
+            same("tank " + i, () -> c.tank, () -> x.tank(i));
+            same("strain " + i, () -> c.strain, () -> x.strain(i));
+            same("lameDays " + i, () -> c.lame, () -> x.lameDays(i));
+            same("dryDays " + i, () -> c.dry, () -> x.dryDays(i));
+            same("carried " + i, () -> w.carried(c), () -> x.carried(i));
+            same("freeWeight " + i, () -> w.free(c), () -> x.freeWeight(i));
+            same("needToday " + i, () -> c.dead ? 0 : w.need(c), () -> x.needToday(i));
+            same("wouldDrink " + i, () -> plain.wouldDrink(i), () -> x.wouldDrink(i));
         }
-        int living = w.living().size();
-        same("meanWater", living == 0 ? 0.0 : (double) sum / (double) living, () -> x.meanWater());
-        same("progress", (float) w.kilometre / (float) w.length, () -> x.progress());
-        same("thirstiest", thirstiest == null ? PlainCaravan.NO_SUCH : thirstiest.number, () -> x.thirstiest());
-        same("fastest", w.fastest() == null ? PlainCaravan.NO_SUCH : w.fastest().number, () -> x.fastest());
+        same("meanWater", () -> w.meanWater(), () -> x.meanWater());
+        same("progress", () -> (float) w.kilometre / (float) w.length, () -> x.progress());
+        same("thirstiest", () -> w.thirstiest() == null ? PlainCaravan.NO_SUCH : w.thirstiest().number, () -> x.thirstiest());
+        same("fastest", () -> w.fastest() == null ? PlainCaravan.NO_SUCH : w.fastest().number, () -> x.fastest());
     }
 
-    private void compareLoads(PlainCaravan.World w) {
-        same("loadCount", w.loads.size(), () -> x.loadCount());
-        int sum = 0;
+    private void askLoads(PlainCaravan.World w) {
+        same("loadCount", () -> w.loads.size(), () -> x.loadCount());
         for (PlainCaravan.Load l : w.loads) {
             int i = l.number;
-            same("weightOf " + i, l.weight, () -> x.weightOf(i));
-            same("valueOf " + i, l.value, () -> x.valueOf(i));
-            same("isCarried " + i, l.carrier != null, () -> x.isCarried(i));
-            same("carrierOf " + i, l.carrier == null ? PlainCaravan.NO_SUCH : l.carrier, () -> x.carrierOf(i));
-            same("placeOf " + i, l.carrier == null ? l.place : w.kilometre, () -> x.placeOf(i));
-            sum += l.carrier == null ? 0 : l.value;
+            same("weightOf " + i, () -> l.weight, () -> x.weightOf(i));
+            same("valueOf " + i, () -> l.value, () -> x.valueOf(i));
+            same("isCarried " + i, () -> l.carrier != null, () -> x.isCarried(i));
+            same("carrierOf " + i, () -> l.carrier == null ? PlainCaravan.NO_SUCH : l.carrier, () -> x.carrierOf(i));
+            same("placeOf " + i, () -> l.carrier == null ? l.place : w.kilometre, () -> x.placeOf(i));
         }
-        same("carriedValue", sum, () -> x.carriedValue());
+        same("carriedValue", () -> w.carriedValue(), () -> x.carriedValue());
     }
 }

@@ -148,6 +148,19 @@ final class PlainCaravan {
             return best;
         }
 
+        Camel thirstiest() {
+            return living().stream().min(Comparator.comparingInt(c -> c.water)).orElse(null);
+        }
+
+        double meanWater() {
+            int sum = living().stream().mapToInt(c -> c.water).sum();
+            return living().isEmpty() ? 0.0 : (double) sum / (double) living().size();
+        }
+
+        int carriedValue() {
+            return loads.stream().filter(l -> l.carrier != null).mapToInt(l -> l.value).sum();
+        }
+
         boolean canTravel() {
             return kilometre < length && !living().isEmpty() && day < 200;
         }
